@@ -44,7 +44,7 @@ public final class RightTurns {
     private final int[] tape = new int[MOST_BYTES];
     private int tapeBytes = 0;
     private int faultPlace = NONE;
-    private Town place = new Town();
+    private Town current = new Town();
     private Town spare = new Town();
     private final Reader reader = new Reader();
     private final Changes changes = new Changes();
@@ -81,14 +81,14 @@ public final class RightTurns {
             return reader.fault - 10;
         }
         // the two towns change places, so that a later faulty text leaves this one as it is
-        Town old = place;
-        place = spare;
+        Town old = current;
+        current = spare;
         spare = old;
         faultPlace = NONE;
         changes.time = 0;
         story.told = 0;
         images.kept = 0;
-        return place.corners;
+        return current.corners;
     }
 
     public int fault() {
@@ -98,15 +98,15 @@ public final class RightTurns {
     public int told(int what) throws IllegalArgumentException {
         switch (what) {
             case 0:
-                return place.corners;
+                return current.corners;
             case 1:
-                return place.streets;
+                return current.streets;
             case 2:
-                return Integer.bitCount(place.boxes);
+                return Integer.bitCount(current.boxes);
             case 3:
-                return place.riders;
+                return current.riders;
             case 4:
-                return place.lefts;
+                return current.lefts;
             case 5:
                 return changes.time;
             default:
@@ -120,20 +120,20 @@ public final class RightTurns {
         int arc = 2 * street;
         switch (what) {
             case 0:
-                return place.begin[arc];
+                return current.begin[arc];
             case 1:
-                return place.end[arc];
+                return current.end[arc];
             case 2:
-                return place.length[arc];
+                return current.length[arc];
             default:
-                return place.isArc(arc + 1) ? 0 : 1;
+                return current.isArc(arc + 1) ? 0 : 1;
         }
     }
 
     public int turn(int arc, int other) throws NoSuchElementException {
         needArc(arc);
         needArc(other);
-        return place.kindOfTurn(arc, other);
+        return current.kindOfTurn(arc, other);
     }
 
     public boolean may(int arc, int other, int time) throws NoSuchElementException, IllegalArgumentException {
@@ -169,16 +169,16 @@ public final class RightTurns {
         needCorner(from);
         needCorner(to);
         lookAt(time);
-        routes.aim(place, rules.next, to);
-        return routes.lengthFrom(place, from);
+        routes.aim(current, rules.next, to);
+        return routes.lengthFrom(current, from);
     }
 
     public int step(int from, int to, int time, int k) throws IndexOutOfBoundsException, IllegalArgumentException {
         needCorner(from);
         needCorner(to);
         lookAt(time);
-        routes.aim(place, rules.next, to);
-        int steps = routes.trace(place, rules.next, from);
+        routes.aim(current, rules.next, to);
+        int steps = routes.trace(current, rules.next, from);
         return k >= 0 && k < steps ? routes.path[k] : NONE;
     }
 
@@ -186,11 +186,11 @@ public final class RightTurns {
         needCorner(corner);
         needWhat(what, 2);
         lookAt(time);
-        int reached = Reach.cornersFrom(place, rules.next, corner);
+        int reached = Reach.cornersFrom(current, rules.next, corner);
         if (what == 0) {
             return reached;
         }
-        int home = Reach.cornersTo(place, rules.next, corner);
+        int home = Reach.cornersTo(current, rules.next, corner);
         return what == 1 ? home : Integer.bitCount(reached & ~home);
     }
 
@@ -199,13 +199,12 @@ public final class RightTurns {
         lookAt(time);
         int many = 0;
         int greatest = 0;
-        for (int arc = 0; arc < 2 * place.streets; arc++) {
-            long part = place.isArc(arc) ? Reach.partOf(place, rules.next, arc) : 0L;
-            // each part is counted at its first arc alone
-            if (part != 0L && lowest(part) == arc) {
-                many++;
-                greatest = Math.max(greatest, Long.bitCount(part));
-            }
+        long rest = current.arcs;
+        for (int i = 0; i < MOST_ARCS && rest != 0L; i++) {
+            long part = Reach.partOf(current, rules.next, lowest(rest));
+            rest &= ~part;
+            many++;
+            greatest = Math.max(greatest, Long.bitCount(part));
         }
         return what == 0 ? many : greatest;
     }
@@ -221,11 +220,11 @@ public final class RightTurns {
     public int open(int time, int what) throws IllegalArgumentException {
         needWhat(what, 1);
         lookAt(time);
-        int pairs = Reach.pairs(place, rules.next);
+        int pairs = Reach.pairs(current, rules.next);
         if (what == 1) {
             return pairs;
         }
-        return pairs == place.corners * (place.corners - 1) ? 1 : 0;
+        return pairs == current.corners * (current.corners - 1) ? 1 : 0;
     }
 
     public int since(int from, int to, int time, boolean is)
@@ -234,8 +233,8 @@ public final class RightTurns {
         needCorner(to);
         needTime(time);
         for (int t = time; t <= changes.time; t++) {
-            changes.bringTo(t, place, rules);
-            int reached = Reach.cornersFrom(place, rules.next, from);
+            changes.bringTo(t, current, rules);
+            int reached = Reach.cornersFrom(current, rules.next, from);
             if ((reached >> to & 1) == (is ? 1 : 0)) {
                 return t;
             }
@@ -244,55 +243,55 @@ public final class RightTurns {
     }
 
     public int left(int k) {
-        return k >= 0 && k < place.lefts ? place.leftTurns[k] : NONE;
+        return k >= 0 && k < current.lefts ? current.leftTurns[k] : NONE;
     }
 
     public int candidates(int time) throws IllegalArgumentException {
         lookAt(time);
-        choices.find(place, rules);
+        choices.find(current, rules);
         return choices.many;
     }
 
     public int fewest(int time, int what) throws IllegalArgumentException {
         needWhat(what, 1);
         lookAt(time);
-        choices.find(place, rules);
+        choices.find(current, rules);
         Arrays.fill(choices.cost, 1);
-        choices.searchLeast(place, rules);
+        choices.searchLeast(current, rules);
         return what == 0 ? choices.bestSum : choices.bestBits;
     }
 
     public int cheapest(int time, int what) throws IllegalArgumentException {
         needWhat(what, 1);
         lookAt(time);
-        choices.find(place, rules);
-        choices.setPrices(place);
-        choices.searchLeast(place, rules);
+        choices.find(current, rules);
+        choices.setPrices(current);
+        choices.searchLeast(current, rules);
         return what == 0 ? choices.bestSum : choices.bestBits;
     }
 
     public int exchange(int time, int what) throws IllegalArgumentException {
         needWhat(what, 1);
         lookAt(time);
-        choices.find(place, rules);
-        choices.searchExchange(place, rules);
+        choices.find(current, rules);
+        choices.searchExchange(current, rules);
         return what == 0 ? choices.bestBits : choices.bestSum;
     }
 
     public int round(int corner, int time) throws IndexOutOfBoundsException, IllegalArgumentException {
         needCorner(corner);
         lookAt(time);
-        return post.leastRound(place, rules.next, corner);
+        return post.leastRound(current, rules.next, corner);
     }
 
     public int bound(int corner, int time) throws IndexOutOfBoundsException, IllegalArgumentException {
         needCorner(corner);
         lookAt(time);
-        return post.leastBound(place, rules.next, corner, routes);
+        return post.leastBound(current, rules.next, corner, routes);
     }
 
     public int home(int rider) throws IllegalArgumentException {
-        if (rider < 0 || rider >= place.riders) {
+        if (rider < 0 || rider >= current.riders) {
             throw new IllegalArgumentException("no such rider");
         }
         letRide();
@@ -306,19 +305,19 @@ public final class RightTurns {
             case 0:
                 return riding.rounds;
             case 1:
-                return riding.homeMany(place);
+                return riding.homeMany(current);
             case 2:
-                return riding.waitsTogether(place);
+                return riding.waitsTogether(current);
             default:
-                return riding.waitsMost(place);
+                return riding.waitsMost(current);
         }
     }
 
     public int counts(int street) throws NoSuchElementException {
         needStreet(street);
         lookAt(changes.time);
-        riding.plan(place, rules.next, routes);
-        return riding.passes(place, street);
+        riding.plan(current, rules.next, routes);
+        return riding.passes(current, street);
     }
 
     public int tell(int corner) throws IndexOutOfBoundsException {
@@ -338,7 +337,7 @@ public final class RightTurns {
         if (story.told < 2) {
             return 0L;
         }
-        int few = story.weigh(place, rules.next, NONE);
+        int few = story.weigh(current, rules.next, NONE);
         if (few == NONE) {
             return NONE;
         }
@@ -347,40 +346,40 @@ public final class RightTurns {
 
     public int cut(int time) throws IllegalArgumentException {
         lookAt(time);
-        return Reach.leastClosed(place, rules.next);
+        return Reach.leastClosed(current, rules.next);
     }
 
     public int sure(int time, int k) throws IllegalArgumentException {
         lookAt(time);
-        return story.surePair(place, rules.next, k);
+        return story.surePair(current, rules.next, k);
     }
 
     public int detour(int from, int to, int time) throws IndexOutOfBoundsException, IllegalArgumentException {
         needCorner(from);
         needCorner(to);
         lookAt(time);
-        routes.aim(place, rules.next, to);
-        int real = routes.lengthFrom(place, from);
+        routes.aim(current, rules.next, to);
+        int real = routes.lengthFrom(current, from);
         if (real == NONE) {
             return NONE;
         }
         // the turns of a ride are among the free ones, so there is a free ride too
-        routes.aim(place, place.forward, to);
-        return real - routes.lengthFrom(place, from);
+        routes.aim(current, current.forward, to);
+        return real - routes.lengthFrom(current, from);
     }
 
     public int gain(int time, int what) throws IllegalArgumentException {
         needWhat(what, 1);
         lookAt(time);
-        choices.find(place, rules);
-        choices.searchGain(place, rules, routes);
+        choices.find(current, rules);
+        choices.searchGain(current, rules, routes);
         return what == 0 ? choices.bestBits : choices.bestSum;
     }
 
     public int baker(int time, int what) throws IllegalArgumentException {
         needWhat(what, 1);
         lookAt(time);
-        int street = riding.busiest(place, rules.next, routes);
+        int street = riding.busiest(current, rules.next, routes);
         if (what == 0) {
             return street;
         }
@@ -430,38 +429,38 @@ public final class RightTurns {
     }
 
     private void needCorner(int corner) {
-        if (corner < 0 || corner >= place.corners) {
+        if (corner < 0 || corner >= current.corners) {
             throw new IndexOutOfBoundsException("no such corner");
         }
     }
 
     private void needStreet(int street) {
-        if (street < 0 || street >= place.streets) {
+        if (street < 0 || street >= current.streets) {
             throw new NoSuchElementException("no such street");
         }
     }
 
     private void needArc(int arc) {
-        if (!place.isArc(arc)) {
+        if (!current.isArc(arc)) {
             throw new NoSuchElementException("no such arc");
         }
     }
 
     private void lookAt(int time) {
         needTime(time);
-        changes.bringTo(time, place, rules);
+        changes.bringTo(time, current, rules);
     }
 
     private void letRide() {
         lookAt(changes.time);
-        riding.plan(place, rules.next, routes);
-        riding.run(place);
+        riding.plan(current, rules.next, routes);
+        riding.run(current);
     }
 
     private int changeOf(int kind, int street, int other, boolean is) {
         needStreet(street);
         needStreet(other);
-        if (street == other || !place.meet(street, other)) {
+        if (street == other || !current.meet(street, other)) {
             throw new IllegalArgumentException("no two streets with a corner in common");
         }
         if (changes.time >= MOST_CHANGES) {
@@ -907,7 +906,7 @@ public final class RightTurns {
         }
     }
 
-    /** All changes since the town was told; any time is found again by undoing none of them. */
+    /** All changes since the town was told: each time's town is made anew from them when it is asked for. */
     private static final class Changes {
         int time = 0;
         private final int[] kinds = new int[MOST_CHANGES];
@@ -1304,8 +1303,7 @@ public final class RightTurns {
             measure(town, next);
             listEnding(town);
             int sets = 1 << stopsMany;
-            makeRoom(sets * endingMany);
-            Arrays.fill(best, 0, sets * endingMany, FAR);
+            clearBest(sets * endingMany);
             for (int i = 0; i < endingMany; i++) {
                 best[(1 << stopOf[i]) * endingMany + i] = fromCorner(town, corner, ending[i]);
             }
@@ -1359,7 +1357,6 @@ public final class RightTurns {
                 return 0;
             }
             int sets = 1 << stopsMany;
-            makeRoom(sets);
             makeBetween();
             for (int to = 0; to < stopsMany; to++) {
                 routes.aim(town, next, stops[to]);
@@ -1368,7 +1365,7 @@ public final class RightTurns {
                     between[from * MOST_ARCS + to] = from == to || length == NONE ? FAR : length;
                 }
             }
-            Arrays.fill(best, 0, sets, FAR);
+            clearBest(sets);
             best[0] = 0;
             for (int taken = 0; taken < sets - 1; taken++) {
                 takeOneMore(taken);
@@ -1441,6 +1438,13 @@ public final class RightTurns {
             }
         }
 
+        private void clearBest(int many) {
+            makeRoom(many);
+            for (int i = 0; i < many && i < best.length; i++) {
+                best[i] = FAR;
+            }
+        }
+
         /** Doubles, so that all rows ever made are together no more than twice the last one. */
         private void makeRoom(int wanted) {
             int size = Math.max(best.length, 1 << MOST_BOXES + 1);
@@ -1461,7 +1465,7 @@ public final class RightTurns {
         private final int[] ways = new int[MOST_RIDERS * MOST_ARCS];
         private final int[] steps = new int[MOST_RIDERS];
         /** Which of its arcs a rider is on; NONE: it has not begun. */
-        private final int[] step = new int[MOST_RIDERS];
+        private final int[] onStep = new int[MOST_RIDERS];
         private final int[] toGo = new int[MOST_RIDERS];
         private final int[] came = new int[MOST_RIDERS];
         private final int[] waits = new int[MOST_RIDERS];
@@ -1491,7 +1495,7 @@ public final class RightTurns {
             int away = 0;
             for (int r = 0; r < town.riders; r++) {
                 homeIn[r] = NONE;
-                step[r] = NONE;
+                onStep[r] = NONE;
                 toGo[r] = 0;
                 came[r] = 0;
                 waits[r] = 0;
@@ -1508,7 +1512,7 @@ public final class RightTurns {
         private void move(Town town, int now) {
             for (int r = 0; r < town.riders; r++) {
                 if (steps[r] > 0 && town.trips[3 * r + 2] == now) {
-                    step[r] = 0;
+                    onStep[r] = 0;
                     toGo[r] = town.length[ways[r * MOST_ARCS]];
                 } else if (isOnTheWay(r) && toGo[r] > 0) {
                     toGo[r]--;
@@ -1538,20 +1542,20 @@ public final class RightTurns {
         }
 
         private void goOn(Town town, int r, int now) {
-            step[r]++;
-            if (step[r] < steps[r]) {
-                toGo[r] = town.length[ways[r * MOST_ARCS + step[r]]];
+            onStep[r]++;
+            if (onStep[r] < steps[r]) {
+                toGo[r] = town.length[ways[r * MOST_ARCS + onStep[r]]];
             } else {
                 homeIn[r] = now;
             }
         }
 
         private boolean isOnTheWay(int r) {
-            return step[r] != NONE && step[r] < steps[r];
+            return onStep[r] != NONE && onStep[r] < steps[r];
         }
 
         private int cornerAhead(Town town, int r) {
-            return town.end[ways[r * MOST_ARCS + step[r]]];
+            return town.end[ways[r * MOST_ARCS + onStep[r]]];
         }
 
         int homeMany(Town town) {
@@ -1756,7 +1760,9 @@ public final class RightTurns {
                 at += broken[i] < pair ? 1 : 0;
             }
             if (brokenMany < MOST_TOLD) {
-                System.arraycopy(broken, at, broken, at + 1, brokenMany - at);
+                for (int i = brokenMany; i > at; i--) {
+                    broken[i] = broken[i - 1];
+                }
                 broken[at] = pair;
                 brokenMany++;
             }
