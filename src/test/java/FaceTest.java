@@ -3,6 +3,7 @@ import java.lang.reflect.Array;
 import java.lang.reflect.Constructor;
 import java.lang.reflect.Executable;
 import java.lang.reflect.Field;
+import java.lang.reflect.InvocationTargetException;
 import java.lang.reflect.Method;
 import java.lang.reflect.Modifier;
 import java.nio.file.Files;
@@ -10,8 +11,10 @@ import java.nio.file.Path;
 import java.util.ArrayDeque;
 import java.util.Arrays;
 import java.util.Collections;
+import java.util.Comparator;
 import java.util.IdentityHashMap;
 import java.util.List;
+import java.util.Random;
 import java.util.Set;
 import java.util.TreeSet;
 import java.util.regex.Matcher;
@@ -40,6 +43,7 @@ public final class FaceTest {
         test.publicFace();
         test.classesInside();
         test.sourceText();
+        test.onlyDeclared();
         test.room();
         test.check.end();
     }
@@ -119,6 +123,40 @@ public final class FaceTest {
         for (int i = 0; i < lines.length; i++) {
             start = lines[i].matches(" {4}( {4})?(public|private|static|\\w+(\\[\\])?) .*[({]$") ? i : start;
             check.due("a method's length at line " + (i + 1), lines[i].matches(" {4}( {4})?}") && i - start > 60, false);
+        }
+    }
+
+    /** Whatever is asked in whatever state: nothing is thrown but what the face declares. */
+    private void onlyDeclared() throws IllegalAccessException {
+        Random random = new Random(7);
+        List<Method> calls = Arrays.stream(RightTurns.class.getDeclaredMethods())
+                .filter(m -> Modifier.isPublic(m.getModifiers()))
+                .sorted(Comparator.comparing(Method::getName)).toList();
+        for (int run = 0; run < 300; run++) {
+            RightTurns x = new RightTurns();
+            Texts.tell(x, TownMaker.town(random));
+            for (int i = 0; i < 400; i++) {
+                Method call = calls.get(random.nextInt(calls.size()));
+                // a town of what is on the tape is most often none: the told one is to stay for long
+                if (!call.getName().equals("town") || random.nextInt(20) == 0) {
+                    callOnce(x, call, random);
+                }
+            }
+        }
+    }
+
+    private void callOnce(RightTurns x, Method call, Random random) throws IllegalAccessException {
+        int[] odd = {Integer.MIN_VALUE, -1, 0, 0, 0, 1, 1, 1, 2, 2, 3, 4, 5, 6, 7, 12, 16, 48, 63, 64, 200, Integer.MAX_VALUE};
+        Object[] args = new Object[call.getParameterCount()];
+        for (int i = 0; i < args.length; i++) {
+            boolean truth = call.getParameterTypes()[i] == boolean.class;
+            args[i] = truth ? (Object) random.nextBoolean() : (Object) odd[random.nextInt(odd.length)];
+        }
+        try {
+            call.invoke(x, args);
+        } catch (InvocationTargetException e) {
+            boolean declared = List.of(call.getExceptionTypes()).contains(e.getCause().getClass());
+            check.due(call.getName() + Arrays.toString(args) + " throws as declared " + e.getCause(), declared, true);
         }
     }
 

@@ -32,10 +32,10 @@ final class TownMaker {
             }
         }
         addPairs(clauses, streets, random);
-        for (int i = random.nextInt(5); i > 0 && places.size() > 1; i--) {
+        for (int i = random.nextInt(random.nextInt(6) == 0 ? 14 : 5); i > 0 && places.size() > 1; i--) {
             clauses.add("box " + random.nextInt(places.size()));
         }
-        for (int i = random.nextInt(6); i > 0 && places.size() > 1; i--) {
+        for (int i = random.nextInt(random.nextInt(6) == 0 ? 13 : 6); i > 0 && places.size() > 1; i--) {
             int a = random.nextInt(places.size());
             int b = (a + 1 + random.nextInt(places.size() - 1)) % places.size();
             clauses.add("rider " + a + " " + b + " " + random.nextInt(random.nextBoolean() ? 3 : 100));
