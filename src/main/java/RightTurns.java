@@ -634,7 +634,6 @@ public final class RightTurns {
         }
 
         private void listLeftTurns() {
-            lefts = 0;
             for (int s = 0; s < streets; s++) {
                 long lefty = leftward[2 * s] | leftward[2 * s + 1];
                 for (int t = 0; t < streets; t++) {
@@ -1617,10 +1616,12 @@ public final class RightTurns {
     private static final class Story {
         int told = 0;
         final int[] corners = new int[MOST_TOLD];
-        /** Of each leg and arc: the fewest turns that break till then; and of the last leg in how many ways. */
+        /**
+         * Of each leg and arc: the fewest turns that break till then; and of the latest two legs in how many ways
+         * (one row is enough, as no arc is of two legs on end).
+         */
         private final int[] few = new int[MOST_TOLD * MOST_ARCS];
-        private long[] ways = new long[MOST_ARCS];
-        private long[] waysBefore = new long[MOST_ARCS];
+        private final long[] ways = new long[MOST_ARCS];
         private final int[] broken = new int[MOST_TOLD];
         private int brokenMany = 0;
 
@@ -1639,9 +1640,6 @@ public final class RightTurns {
             long before = 0L;
             for (int leg = 0; leg < told - 1; leg++) {
                 long arcs = town.outOf[corners[leg]] & town.into[corners[leg + 1]];
-                long[] spare = waysBefore;
-                waysBefore = ways;
-                ways = spare;
                 for (int arc = 0; arc < 2 * town.streets; arc++) {
                     if (has(arcs, arc) && leg == 0) {
                         few[arc] = 0;
@@ -1666,7 +1664,7 @@ public final class RightTurns {
                         least = so;
                         many = 0L;
                     }
-                    many += so == least && so < FAR ? waysBefore[earlier] : 0L;
+                    many += so == least && so < FAR ? ways[earlier] : 0L;
                 }
             }
             few[leg * MOST_ARCS + arc] = least;

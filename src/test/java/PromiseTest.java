@@ -116,6 +116,19 @@ public final class PromiseTest {
         check.due("no riders", x.told(3), 0);
         check.due("no boxes", x.told(2), 0);
         check.due("nothing allowed", x.stands(0, 1, 0, 1), false);
+        // each further one, too, has nothing of those before
+        Texts.tell(x, SQUARE + "one 1;no 0 1;may 0 1;box 1;rider 0 1 0;");
+        Texts.tell(x, CROSS + "one 1;no 0 1;may 0 1;box 1;rider 0 1 0;");
+        for (int i = 0; i < 2; i++) {
+            Texts.tell(x, SQUARE);
+            check.due("boxes told anew", x.told(2), 0);
+            check.due("riders told anew", x.told(3), 0);
+            check.due("lefts told anew", x.told(4), 4);
+            check.due("one way told anew", x.street(1, 3), 0);
+            check.due("signs told anew", x.stands(0, 1, 0, 0) || x.stands(0, 1, 0, 1), false);
+            check.due("rides told anew", x.ride(2, 1, 0), 10);
+            check.due("parts told anew", x.parts(0, 0), 5);
+        }
         check.due("empty town", x.town(0), 0);
         check.due("no corners any more", x.told(0), 0);
     }
@@ -124,6 +137,13 @@ public final class PromiseTest {
         RightTurns x = new RightTurns();
         check.due("town " + text, Texts.tell(x, text), kind - 10);
         check.due("fault of " + text, x.fault(), place);
+    }
+
+    private void cutFault(String text, int n, int place) {
+        RightTurns x = new RightTurns();
+        Texts.feed(x, text);
+        check.due("town(" + n + ") of " + text, x.town(n), -9);
+        check.due("fault of " + n + " of " + text, x.fault(), place);
     }
 
     private void fine(String text, int corners) {
@@ -135,6 +155,8 @@ public final class PromiseTest {
     private void faults() {
         fault("corn", 1, 0);
         fault("  cornerx 0 0;", 1, 2);
+        fault("cornerz 0 0;", 1, 0);
+        fault("acorner 0 0;", 1, 0);
         fault("Corner 0 0;", 1, 0);
         fault(";", 1, 0);
         fault("corner 0 0;;", 1, 11);
@@ -163,6 +185,7 @@ public final class PromiseTest {
         fault("corner 0 0;box 1;", 2, 15);
         fault("corner 0 0;corner 1 0;rider 0 0 1;", 2, 30);
         fault("corner 0 0;corner 1 0;rider 0 2 1;", 2, 30);
+        fault("corner 0 0;corner 1 0;rider 2 0 1;", 2, 28);
         fault("corner 0 0;corner 1 0;rider 0 1 100;", 2, 32);
         fault(SQUARE + "no 0 2;", 2, SQUARE.length() + 5);
         fault(SQUARE + "may 0 2;", 2, SQUARE.length() + 6);
@@ -170,6 +193,11 @@ public final class PromiseTest {
         fault(SQUARE + "may 1 1;", 2, SQUARE.length() + 6);
         fault(SQUARE + "no 4 0;", 2, SQUARE.length() + 3);
         fault(SQUARE + "may 0 4;", 2, SQUARE.length() + 6);
+        // what stands behind the first n bytes is not looked at
+        cutFault("corner 0 0;", 10, 10);
+        cutFault("corner 0 0;box 0;", 16, 16);
+        cutFault("corner 0 0;boxes", 14, 14);
+        cutFault("corner 12 34", 10, 10);
         fine("", 0);
         fine("   ", 0);
         fine("corner0 0;", 1);
@@ -491,6 +519,7 @@ public final class PromiseTest {
         check.throwsIllegal("cheapest what", () -> x.cheapest(0, -1));
         check.throwsIllegal("cheapest time", () -> x.cheapest(3, 0));
         // a dear street and a cheap one lead to the same left turn
+        check.due("asked for first", Texts.townOf(CROSS).cheapest(0, 1), 15);
         RightTurns ways = Texts.townOf("corner 0 0;corner 5 0;corner 5 5;street 0 1 99;street 0 1 2;street 1 2 3;");
         check.due("two ways", ways.candidates(0), 2);
         check.due("one is enough", ways.fewest(0, 0), 1);
@@ -517,6 +546,18 @@ public final class PromiseTest {
         check.due("as it is", even.exchange(0, 1), 17);
     }
 
+    /** Eleven corners on a bow, each with a street of 1 to the next one; by growing number all turns go right. */
+    private static String ring(String rest) {
+        StringBuilder text = new StringBuilder();
+        for (int i = 0; i < 11; i++) {
+            text.append("corner ").append(4 * i).append(' ').append(i * (18 - i)).append(';');
+        }
+        for (int i = 0; i < 11; i++) {
+            text.append("street ").append(i).append(' ').append((i + 1) % 11).append(" 1;");
+        }
+        return text + rest;
+    }
+
     private void letterBoxes() {
         RightTurns x = Texts.townOf(SQUARE + "box 1;box 2;");
         check.due("round the block", x.round(0, 0), 40);
@@ -532,6 +573,14 @@ public final class PromiseTest {
         check.due("nobody turns at a dead end", dead.round(0, 0), NONE);
         check.due("the bound does not see that", dead.bound(0, 0), 60);
         check.due("from 4 there is no ride to 3", dead.bound(4, 0), NONE);
+        RightTurns ring = Texts.townOf(ring("box 0;box 1;box 2;box 3;box 4;box 5;box 6;box 7;box 8;box 9;"));
+        check.due("ten boxes and home", ring.round(10, 0), 11);
+        check.due("nine others", ring.round(3, 0), 11);
+        check.due("the bound of eleven", ring.bound(10, 0), 11);
+        check.due("the bound of ten", ring.bound(3, 0), 10);
+        ring.sign(4, 5, true);
+        check.due("nobody gets round", ring.round(10, 1), NONE);
+        check.due("the bound as before", ring.bound(10, 1), 11);
         check.throwsOut("round(5, 9)", () -> dead.round(5, 9));
         check.throwsIllegal("round time", () -> dead.round(0, 1));
         check.throwsOut("bound(-1, 9)", () -> dead.bound(-1, 9));
@@ -663,6 +712,19 @@ public final class PromiseTest {
         x.tell(0);
         check.due("no street there", x.sure(0, 0), NONE);
         check.throwsIllegal("sure time", () -> x.sure(2, 0));
+        RightTurns round = Texts.townOf(SQUARE);
+        for (int corner : new int[] {2, 3, 0, 1, 2}) {
+            round.tell(corner);
+        }
+        int[] pairs = {1, 203, 300, NONE};
+        for (int k = 0; k < 4; k++) {
+            check.due("by S, then T " + k, round.sure(0, k), pairs[k]);
+        }
+        round.forget();
+        round.tell(0);
+        round.tell(1);
+        round.tell(2);
+        check.due("the first turn", round.sure(0, 0), 1);
         // the first leg is 0, the last 1, so 0 turns into 1 in each way, now at the one end, now at the other
         RightTurns pair = Texts.townOf("corner 5 5;corner 9 5;corner 1 5;corner 13 5;"
                 + "street 0 1 2;street 0 1 2;street 2 0 2;street 1 3 2;no 2 1;no 0 3;");
@@ -682,6 +744,11 @@ public final class PromiseTest {
         check.due("the corner alone", y.cut(0), 16);
         RightTurns z = Texts.townOf(corners(4) + "street 0 1 1;street 2 3 1;");
         check.due("of two pairs the least", z.cut(0), 3);
+        RightTurns crosswise = Texts.townOf(corners(6) + "street 0 5 1;street 1 2 1;street 3 4 1;street 2 3 1;"
+                + "street 5 0 1;");
+        check.due("the smaller one, whatever its bits", crosswise.cut(0), 33);
+        RightTurns pairs = Texts.townOf(corners(6) + "street 0 5 1;street 1 2 1;street 3 4 1;");
+        check.due("of three pairs the least", pairs.cut(0), 6);
         check.due("one part: none", Texts.townOf(SQUARE).cut(0), 0);
         check.due("one corner: none", Texts.townOf("corner 0 0;").cut(0), 0);
         // 0 does not reach 2, but 1 does, and 0 reaches 1: a set with 0 has all
