@@ -546,18 +546,6 @@ public final class PromiseTest {
         check.due("as it is", even.exchange(0, 1), 17);
     }
 
-    /** Eleven corners on a bow, each with a street of 1 to the next one; by growing number all turns go right. */
-    private static String ring(String rest) {
-        StringBuilder text = new StringBuilder();
-        for (int i = 0; i < 11; i++) {
-            text.append("corner ").append(4 * i).append(' ').append(i * (18 - i)).append(';');
-        }
-        for (int i = 0; i < 11; i++) {
-            text.append("street ").append(i).append(' ').append((i + 1) % 11).append(" 1;");
-        }
-        return text + rest;
-    }
-
     private void letterBoxes() {
         RightTurns x = Texts.townOf(SQUARE + "box 1;box 2;");
         check.due("round the block", x.round(0, 0), 40);
@@ -573,7 +561,7 @@ public final class PromiseTest {
         check.due("nobody turns at a dead end", dead.round(0, 0), NONE);
         check.due("the bound does not see that", dead.bound(0, 0), 60);
         check.due("from 4 there is no ride to 3", dead.bound(4, 0), NONE);
-        RightTurns ring = Texts.townOf(ring("box 0;box 1;box 2;box 3;box 4;box 5;box 6;box 7;box 8;box 9;"));
+        RightTurns ring = Texts.townOf(Texts.ring("box 0;box 1;box 2;box 3;box 4;box 5;box 6;box 7;box 8;box 9;"));
         check.due("ten boxes and home", ring.round(10, 0), 11);
         check.due("nine others", ring.round(3, 0), 11);
         check.due("the bound of eleven", ring.bound(10, 0), 11);
