@@ -85,6 +85,9 @@ public final class ChangeBoundsTest {
                 check.due("street(" + s + ", " + what + ")", x.street(s, what), due[s][what]);
             }
         }
+        RightTurns first = Texts.townOf(SQUARE + "one0;");
+        check.due("the first is one way", first.street(0, 3), 1);
+        check.due("the next is not", first.street(1, 3), 0);
         check.only("what of the first", 4, Check.ILLEGAL, what -> x.street(0, what));
         check.only("what of the last", 4, Check.ILLEGAL, what -> x.street(4, what));
         check.says(6, "NoSuchElementException: no such STREET (so below)");
@@ -510,7 +513,7 @@ public final class ChangeBoundsTest {
             x.back(0);
         }
         x.image();
-        x.tell(2);
+        x.tell(1);
         x.image();
         check.due("two left", x.restore(), 2);
         check.due("time 200", x.told(5), 200);
@@ -521,7 +524,7 @@ public final class ChangeBoundsTest {
         check.due("none left", x.restore(), 0);
         check.due("time 100", x.told(5), 100);
         check.due("twelve corners", x.count(0), 12);
-        check.due("in their order", x.breaks(0, 1), 1);
+        check.due("in their order, though another one came first since", x.breaks(0, 1), 1);
         check.due("which are all", x.tell(0), -1);
         check.throwsIllegal("no time 101", () -> x.may(0, 2, 101));
         check.due("as at 99", x.may(0, 2, 99), true);

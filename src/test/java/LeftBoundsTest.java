@@ -18,6 +18,14 @@ public final class LeftBoundsTest {
     private static final String NINE = "corner50 0;corner0 9;corner50 9;corner99 9;" + "street0 1 5;".repeat(9)
             + "street0 2 5;street0 3 5;may0 9;may0 10;may1 9;";
 
+    /** A left turn from 0 into 1 leads to two corners, one from 3 into 4 to one. */
+    private static final String TWO_HOOKS = "corner0 0;corner1 0;corner1 1;corner1 2;corner50 50;corner51 50;corner51 51;"
+            + "street0 1 5;street1 2 5;street2 3 5;street4 5 5;street5 6 5;";
+
+    /** The same with left turns from 2 into 0 and from 4 into 3. */
+    private static final String HOOKS_MIRRORED = "corner0 0;corner1 0;corner1 1;corner1 2;corner50 50;corner51 50;corner51 51;"
+            + "street1 2 5;street2 3 5;street0 1 5;street5 6 5;street4 5 5;";
+
     private final Check check = new Check();
 
     public static void main(String[] args) {
@@ -107,6 +115,12 @@ public final class LeftBoundsTest {
         check.due("14 of 14", Texts.townOf(FAN + "may0 1;").candidates(0), 14);
         check.due("13 of 13", Texts.townOf(FAN + "may0 1;no0 2;").candidates(0), 13);
         check.says(0, "CANDIDATES: of these those that are not ALLOWED at a time, without a SIGN");
+        // west to east instead: left turns go from greater numbers into less ones
+        String mirrored = "corner50 0;corner99 9;corner60 9;corner0 9;street0 1 5;street0 2 5;street0 3 5;";
+        check.due("three", Texts.townOf(mirrored).candidates(0), 3);
+        check.due("one allowed", Texts.townOf(mirrored + "may1 0;").candidates(0), 2);
+        check.due("one with a sign", Texts.townOf(mirrored + "no2 1;").candidates(0), 2);
+        check.due("what is no left turn does not count", Texts.townOf(mirrored + "may0 1;no1 2;").candidates(0), 3);
         RightTurns x = Texts.townOf(HOOK);
         x.allow(0, 1, true);
         x.sign(0, 1, true);
@@ -251,6 +265,13 @@ public final class LeftBoundsTest {
         check.due("twenty left turns", x.told(4), 20);
         check.due("4 for 0", x.exchange(0, 0), 4000);
         check.due("one pair more", x.exchange(0, 1), x.open(0, 1) + 1);
+        // the one that is forbidden costs a pair, the one that is allowed brings two
+        RightTurns hooks = Texts.townOf(TWO_HOOKS + "may3 4;");
+        check.due("1 for 0, the only candidate", hooks.exchange(0, 0), 1000);
+        check.due("two more, one less", hooks.exchange(0, 1), 17);
+        RightTurns mirrored = Texts.townOf(HOOKS_MIRRORED + "may4 3;");
+        check.due("the same by greater numbers into less ones", mirrored.exchange(0, 0), 1000);
+        check.due("as many", mirrored.exchange(0, 1), 17);
         check.says(24, "how many pairs then (1)");
         check.due("without a town", new RightTurns().exchange(0, 1), 0);
         check.due("none helps: as it is", Texts.townOf(HOOK).exchange(0, 1), 5);

@@ -382,6 +382,9 @@ public final class RideBoundsTest {
         check.says(0, "of all sets of CORNERS, one at least and not all, from none of which a RIDE leads to one that is not in it");
         // from 0 no ride leads to 2, but one to 1, and from 1 one to 2
         check.due("no set for the hook", Texts.townOf(HOOK).cut(0), 0);
+        // 0 to 2, 2 to 5, 5 to 4, 4 to 3, 3 to 1 and 1 to 0 each by a street that nobody leaves to the next one
+        check.due("nor for a round by left turns alone", Texts.townOf("corner0 0;corner2 9;corner9 0;corner4 9;corner8 8;corner9 4;"
+                + "street0 2 1;street2 5 1;street5 4 1;street4 3 1;street3 1 1;street1 0 1;one0;one1;one2;one3;one4;one5;").cut(0), 0);
         RightTurns x = Texts.townOf(HOOK + "one1;");
         check.due("2 leads nowhere", x.cut(0), 0b100);
         x.allow(0, 1, true);

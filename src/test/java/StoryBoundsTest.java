@@ -215,6 +215,8 @@ public final class StoryBoundsTest {
         x.allow(0, 1, true);
         check.due("now one of the ways is fewer, and breaks there alone", x.sure(2, 0), 102);
         check.due("and no other", x.sure(2, 1), NONE);
+        check.due("the fewest way is by the greater arc", toldOf(SQUARE + "street0 1 9;may4 1;", 3, 0, 1, 2).sure(0, 0), 304);
+        check.due("the last arc is 0", toldOf(SQUARE, 3, 0, 1).sure(0, 0), 300);
         RightTurns twice = toldOf(SQUARE, 0, 1, 2, 1, 0, 1, 2);
         // 0 into 1 twice, back on 1 and back on 0
         check.due("back on 0 is 0 into 0", twice.sure(0, 0), 0);
@@ -233,6 +235,15 @@ public final class StoryBoundsTest {
             check.due("pair " + k, x.sure(0, k), 100 * k + k - 1);
         }
         check.due("no eleventh", x.sure(0, 10), NONE);
+        // another one of ten on the same object: back at each corner but the last
+        x.forget();
+        tellAll(x, 0, 1, 0, 10, 0, 10, 9, 10, 9, 8, 9, 8);
+        int[] due = {0, 10, 808, 908, 909, 1009, 1010};
+        check.due("some again", x.breaks(0, 0), 10);
+        for (int k = 0; k < due.length; k++) {
+            check.due("another pair " + k, x.sure(0, k), due[k]);
+        }
+        check.due("no more of them", x.sure(0, due.length), NONE);
     }
 
     private void sureNone() {

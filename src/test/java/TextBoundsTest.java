@@ -554,10 +554,26 @@ public final class TextBoundsTest {
         check.due("no images", x.count(1), 0);
         check.due("none to come back to", x.restore(), -1);
         check.due("nothing of the one before", x.told(1) + x.told(2) + x.told(3) + x.told(4), 0);
+        townsInARow();
         Texts.feed(x, "corner 5 5;corner 6 6;");
         check.due("none of the bytes", x.town(0), 0);
         check.due("no corners", x.told(0), 0);
         check.due("empty as well", x.count(2), 0);
+    }
+
+    /** Whatever was told before, with or without a fault, nothing of it is left. */
+    private void townsInARow() {
+        String rich = "one 1;no 0 1;may 0 1;box 0;rider 0 1 5;";
+        String turned = "corner9 9;corner8 9;corner8 8;street1 0 3;street2 1 3;street0 2 3;street0 1 4;";
+        RightTurns x = new RightTurns();
+        for (String before : List.of(HOOK + rich, turned + rich, turned + rich + "corner", HOOK + rich + "box 9;")) {
+            Texts.tell(x, before);
+            Texts.tell(x, turned + rich);
+            Texts.tell(x, before);
+            Texts.tell(x, HOOK);
+            check.due("behind " + before, Answers.of(x), Answers.of(Texts.townOf(HOOK)));
+            x = new RightTurns();
+        }
     }
 
     private void townAnswers() {

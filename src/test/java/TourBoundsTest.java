@@ -71,6 +71,9 @@ public final class TourBoundsTest {
                 + "street0 1 1;street1 2 2;street2 0 3;street0 3 4;street3 4 5;street4 0 6;box2;box4;");
         check.due("both triangles", x.round(0, 0), 21);
         check.due("from the first one it would be left in the end", x.round(1, 0), NONE);
+        RightTurns other = Texts.townOf("corner5 5;corner0 9;corner4 9;corner6 1;corner2 1;"
+                + "street0 1 1;street1 2 2;street2 0 3;street0 3 4;street3 4 5;street4 0 6;box4;");
+        check.due("the box's triangle alone", other.round(0, 0), 15);
         x.allow(5, 0, true);
         check.due("by way of 0 twice", x.round(1, 1), 21);
         RightTurns left = Texts.townOf(SQUARE + "box3;may0 1;may1 2;may2 3;may3 0;");
@@ -84,6 +87,10 @@ public final class TourBoundsTest {
         RightTurns x = Texts.townOf(Texts.ring(TEN));
         for (int c = 0; c < 11; c++) {
             check.due("all of ten from " + c, x.round(c, 0), 11);
+        }
+        RightTurns one = Texts.townOf(Texts.ring("box5;"));
+        for (int c = 0; c < 11; c++) {
+            check.due("all round for one from " + c, one.round(c, 0), c == 5 ? 0 : 11);
         }
         x.sign(9, 10, true);
         for (int c = 0; c < 11; c++) {

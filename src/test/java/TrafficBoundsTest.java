@@ -117,14 +117,22 @@ public final class TrafficBoundsTest {
         check.due("one is home", x.traffic(1), 1);
     }
 
+    private static String barredNow(RightTurns x) {
+        x.sign(0, 1, true);
+        return x.traffic(0) + " " + x.traffic(1) + " " + x.traffic(2) + " " + x.home(0) + " " + x.counts(1);
+    }
+
     private void asItIsNow() {
         check.says(0, "TRAFFIC, from ROUND 0 on: each RIDER takes SHORTEST (of all those the first) as the town is now");
         RightTurns x = Texts.townOf("corner0 0;corner1 0;corner1 1;street0 1 5;street1 2 7;rider0 2 0;");
         check.due("left", x.home(0), NONE);
         x.allow(0, 1, true);
         check.due("allowed", x.home(0), 12);
-        x.sign(0, 1, true);
-        check.due("barred", x.home(0), NONE);
+        check.due("thirteen rounds", x.traffic(0), 13);
+        check.due("street 1 is passed", x.counts(1), 1);
+        x.sign(1, 0, true);
+        check.due("a sign elsewhere", x.home(0), 12);
+        check.due("nothing of the traffic before is left", barredNow(x), "0 0 0 -1 0");
         x.back(1);
         check.due("as at 1", x.home(0), 12);
         x.image();
@@ -217,6 +225,7 @@ public final class TrafficBoundsTest {
         check.due("alone", Texts.townOf(PAIR + "rider0 1 0;").traffic(2), 0);
         check.due("two at once", Texts.townOf(PAIR + "rider0 1 0;rider0 1 0;").traffic(2), 1);
         check.due("three at once", Texts.townOf(PAIR + "rider0 1 0;rider0 1 0;rider0 1 0;").traffic(2), 3);
+        check.due("of rider 0, too", Texts.townOf(PAIR + "rider0 1 1;rider0 1 0;rider0 1 0;rider0 1 0;").traffic(2), 5);
         check.due("one behind another", Texts.townOf(PAIR + "rider0 1 0;rider0 1 1;").traffic(2), 0);
         check.due("two to each end", Texts.townOf(PAIR + "rider0 1 0;rider0 1 0;rider1 0 0;rider1 0 0;").traffic(2), 2);
     }
