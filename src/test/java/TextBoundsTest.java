@@ -563,16 +563,15 @@ public final class TextBoundsTest {
 
     /** Whatever was told before, with or without a fault, nothing of it is left. */
     private void townsInARow() {
-        String rich = "one 1;no 0 1;may 0 1;box 0;rider 0 1 5;";
-        String turned = "corner9 9;corner8 9;corner8 8;street1 0 3;street2 1 3;street0 2 3;street0 1 4;";
-        RightTurns x = new RightTurns();
-        for (String before : List.of(HOOK + rich, turned + rich, turned + rich + "corner", HOOK + rich + "box 9;")) {
+        String rich = "no 0 1;may 0 1;box 0;rider 0 1 5;";
+        String turned = "corner9 9;corner8 9;corner8 8;street1 0 3;street0 2 3;street2 1 3;street0 1 4;one 3;" + rich;
+        for (String before : List.of(HOOK + rich + "one 1;", turned, turned + "corner", HOOK + rich + "box 9;")) {
+            RightTurns x = new RightTurns();
             Texts.tell(x, before);
-            Texts.tell(x, turned + rich);
+            Texts.tell(x, turned);
             Texts.tell(x, before);
             Texts.tell(x, HOOK);
             check.due("behind " + before, Answers.of(x), Answers.of(Texts.townOf(HOOK)));
-            x = new RightTurns();
         }
     }
 
