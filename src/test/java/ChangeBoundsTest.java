@@ -155,7 +155,8 @@ public final class ChangeBoundsTest {
     }
 
     private void kindsOfTurn() {
-        check.says(0, "Of others, from (x, y) of the first into (u, v) of the second (ways along them): x v less y u above 0: LEFT");
+        check.says(0, "Of others, from (x, y) of the first into (u, v) of the second (ways along them): x v less y u above "
+                + "0: LEFT");
         check.due("just left", turnOf(48, 49, 47, 48), 3);
         check.due("straight left", turnOf(10, 0, 0, 10), 3);
         check.due("the whole town to the left", turnOf(49, 49, -49, -48), 3);
@@ -215,7 +216,8 @@ public final class ChangeBoundsTest {
     }
 
     private void ridden() {
-        check.says(0, "A TURN may be ridden, if it is RIGHT, or STRAIGHT, or LEFT and ALLOWED, and there is no SIGN against it");
+        check.says(0, "A TURN may be ridden, if it is RIGHT, or STRAIGHT, or LEFT and ALLOWED, and there is no SIGN "
+                + "against it");
         String cross = "corner5 5;corner9 5;corner5 9;corner1 5;corner5 1;street0 1 1;street0 2 1;street0 3 1;street0 4 1;";
         // from the east: 1 is right, 2 straight on, 3 left
         for (String told : List.of("", "may0 1;may0 2;may0 3;", "no0 1;no0 2;no0 3;", "may0 1;may0 2;may0 3;no0 1;no0 2;no0 3;")) {
@@ -296,7 +298,8 @@ public final class ChangeBoundsTest {
     }
 
     private void soAlready() {
-        check.says(0, "A CHANGE puts up a SIGN, takes one down, allows, or forbids again (nothing, if it is so already)");
+        check.says(0, "A CHANGE puts up a SIGN, takes one down, allows, or forbids again (nothing, if it is so "
+                + "already)");
         RightTurns x = Texts.townOf(SQUARE + "no 0 1;may 0 1;");
         check.due("a sign that was told", x.sign(0, 1, true), -2);
         check.due("leave that was told", x.allow(0, 1, true), -2);
@@ -451,7 +454,8 @@ public final class ChangeBoundsTest {
     }
 
     private void stands() {
-        check.says(12, "Whether there is a SIGN (what 0), it is ALLOWED (1), from a STREET into another one, at a time");
+        check.says(12, "Whether there is a SIGN (what 0), it is ALLOWED (1), from a STREET into another one, at a "
+                + "time");
         RightTurns x = Texts.townOf(SQUARE + "no 0 1;may 1 2;");
         check.due("a sign", x.stands(0, 1, 0, 0), true);
         check.due("no leave", x.stands(0, 1, 0, 1), false);

@@ -54,7 +54,8 @@ public final class LeftBoundsTest {
     }
 
     private void leftTurns() {
-        check.says(0, "LEFT TURNS: all pairs of STREETS S and T of which some TURN from S into T is LEFT, numbered by S, then T");
+        check.says(0, "LEFT TURNS: all pairs of STREETS S and T of which some TURN from S into T is LEFT, numbered by S, "
+                + "then T");
         check.due("no streets", Texts.townOf(ONE).told(4), 0);
         check.due("no turn left", Texts.townOf(Texts.row(3) + "street0 1 1;street1 2 1;").told(4), 0);
         check.due("one", Texts.townOf(HOOK).told(4), 1);
@@ -339,7 +340,8 @@ public final class LeftBoundsTest {
     }
 
     private void gainMostRides() {
-        check.says(0, "SHORTEST of all RIDERS together are least (as many as can have a RIDE first), of these the first, if it is better than as it is");
+        check.says(0, "SHORTEST of all RIDERS together are least (as many as can have a RIDE first), of these the first, "
+                + "if it is better than as it is");
         // one more rides by 99 and 7: more together, but as many as can come first
         RightTurns x = Texts.townOf("corner0 0;corner1 0;corner1 1;street0 1 99;street1 2 7;rider2 1 0;rider0 2 0;");
         check.due("more rides, though longer", x.gain(0, 0), 0);

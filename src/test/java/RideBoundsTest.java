@@ -82,7 +82,8 @@ public final class RideBoundsTest {
     }
 
     private void longest() {
-        check.says(0, "A RIDE from a CORNER to another one: ARCS, the first beginning at the one, the last ending at the other, each TURN between may be ridden");
+        check.says(0, "A RIDE from a CORNER to another one: ARCS, the first beginning at the one, the last ending at the "
+                + "other, each TURN between may be ridden");
         // corner 1 is passed twice: east, right, right, right, then straight on over the first street
         RightTurns twice = Texts.townOf("corner0 5;corner5 5;corner9 5;corner9 1;corner5 1;corner5 9;"
                 + "street0 1 99;street1 2 99;street2 3 99;street3 4 99;street4 1 99;street1 5 99;");
@@ -315,7 +316,8 @@ public final class RideBoundsTest {
     }
 
     private void openPairs() {
-        check.says(18, "Whether the town is OPEN (what 0: 1, 0), how many pairs of CORNERS (A to B, A not B) have a RIDE (1)");
+        check.says(18, "Whether the town is OPEN (what 0: 1, 0), how many pairs of CORNERS (A to B, A not B) have a RIDE "
+                + "(1)");
         check.due("without corners", new RightTurns().open(0, 1), 0);
         check.due("one corner", Texts.townOf(ONE).open(0, 1), 0);
         check.due("two apart", Texts.townOf(Texts.row(2)).open(0, 1), 0);
@@ -329,7 +331,8 @@ public final class RideBoundsTest {
     }
 
     private void since() {
-        check.says(19, "The first time, from a told one on, at which one CORNER is not REACHED from another one (is false), or is (true)");
+        check.says(19, "The first time, from a told one on, at which one CORNER is not REACHED from another one (is false), "
+                + "or is (true)");
         RightTurns x = Texts.townOf(HOOK);
         for (int i = 1; i <= 200; i++) {
             if (i == 50 || i == 51 || i == 200) {
@@ -379,7 +382,8 @@ public final class RideBoundsTest {
         check.due("all but the first", Texts.townOf(line(16, 1) + "one0;").cut(0), 65534);
         check.due("one ahead of two of less bits", Texts.townOf(Texts.row(3) + "street0 1 1;").cut(0), 4);
         check.due("two and two", Texts.townOf(Texts.row(4) + "street0 3 1;street1 2 1;").cut(0), 0b0110);
-        check.says(0, "of all sets of CORNERS, one at least and not all, from none of which a RIDE leads to one that is not in it");
+        check.says(0, "of all sets of CORNERS, one at least and not all, from none of which a RIDE leads to one that is "
+                + "not in it");
         // from 0 no ride leads to 2, but one to 1, and from 1 one to 2
         check.due("no set for the hook", Texts.townOf(HOOK).cut(0), 0);
         // 0 to 2, 2 to 5, 5 to 4, 4 to 3, 3 to 1 and 1 to 0 each by a street that nobody leaves to the next one
@@ -402,7 +406,8 @@ public final class RideBoundsTest {
     }
 
     private void detour() {
-        check.says(0, "DETOUR of a CORNER to another one: SHORTEST less what it would be, if all TURNS but those BACK might be ridden, SIGNS or not");
+        check.says(0, "DETOUR of a CORNER to another one: SHORTEST less what it would be, if all TURNS but those BACK "
+                + "might be ridden, SIGNS or not");
         RightTurns x = Texts.townOf(SQUARE + "street0 2 99;");
         check.due("by the right as by the left", x.detour(0, 2, 0), 0);
         // by the left from 0 it would be 17, by the right 13
@@ -436,7 +441,8 @@ public final class RideBoundsTest {
     }
 
     private void baker() {
-        check.says(0, "BAKER: the STREET that most SHORTEST (the first of each), of all pairs of CORNERS A to B, pass, of these the first (each pair once, though it may be passed both ways); how many");
+        check.says(0, "BAKER: the STREET that most SHORTEST (the first of each), of all pairs of CORNERS A to B, pass, of "
+                + "these the first (each pair once, though it may be passed both ways); how many");
         check.due("of all alike the first", Texts.townOf(Texts.row(6) + "street4 5 1;street2 3 1;street0 1 1;").baker(0, 0), 0);
         RightTurns x = Texts.townOf(line(16, 1));
         check.due("the middle of fifteen", x.baker(0, 0), 7);

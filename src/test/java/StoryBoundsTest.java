@@ -150,7 +150,8 @@ public final class StoryBoundsTest {
     }
 
     private void breaksMost() {
-        check.says(0, "A TOLD RIDE: CORNERS one by one, 12 at most, by STREETS between them that aren't told (each way any that there is)");
+        check.says(0, "A TOLD RIDE: CORNERS one by one, 12 at most, by STREETS between them that aren't told (each way any "
+                + "that there is)");
         RightTurns x = toldOf(SQUARE, 0, 1, 0, 1, 0, 1, 0, 1, 0, 1, 0, 1);
         check.due("ten turns, all back", x.breaks(0, 0), 10);
         check.due("one way", x.breaks(0, 1), 1);
@@ -206,7 +207,8 @@ public final class StoryBoundsTest {
     }
 
     private void sureEach() {
-        check.says(0, "SURE: pairs of STREETS, S then T, a TURN from S into T of which breaks in each of the fewest ways of the TOLD RIDE, by S, then T");
+        check.says(0, "SURE: pairs of STREETS, S then T, a TURN from S into T of which breaks in each of the fewest ways "
+                + "of the TOLD RIDE, by S, then T");
         RightTurns x = toldOf(SQUARE + "street0 1 9;", 0, 1, 2, 3);
         check.due("not by the one of two streets", x.sure(0, 0), 102);
         check.due("nor the other", x.sure(0, 1), NONE);

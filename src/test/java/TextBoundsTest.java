@@ -286,7 +286,7 @@ public final class TextBoundsTest {
         check.says(0, "from CORNER A to B, not the same, from ROUND M on, 0 to 99");
         for (int m : new int[] {0, 1, 98, 99}) {
             RightTurns x = Texts.townOf(HOOK + "rider 2 0 " + m + ";");
-            check.due("home two rounds and a turn later than " + m, x.home(0), m + 2);
+            check.due("home two streets of 1 later than " + m, x.home(0), m + 2);
         }
         faultIn(HOOK, "rider 0 1 100;", 2, 10);
         faultIn(HOOK, "rider 0 1 -1;", 1, 10);

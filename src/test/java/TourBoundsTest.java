@@ -65,7 +65,8 @@ public final class TourBoundsTest {
     }
 
     private void passes() {
-        check.says(0, "A ROUND of letter boxes from a CORNER and back: a RIDE that ends where it began, and passes all boxes (ends some ARC there");
+        check.says(0, "A ROUND of letter boxes from a CORNER and back: a RIDE that ends where it began, and passes all "
+                + "boxes (ends some ARC there");
         // two triangles by the right that meet at 0: the first one ends straight ahead of the other
         RightTurns x = Texts.townOf("corner5 5;corner0 9;corner4 9;corner6 1;corner2 1;"
                 + "street0 1 1;street1 2 2;street2 0 3;street0 3 4;street3 4 5;street4 0 6;box2;box4;");
@@ -125,7 +126,8 @@ public final class TourBoundsTest {
     }
 
     private void bounds() {
-        check.says(0, "BOUND: each box, and the CORNER (without boxes there: those are one), has one of the others behind it, no two the same one, by SHORTEST, together: the least");
+        check.says(0, "BOUND: each box, and the CORNER (without boxes there: those are one), has one of the others behind "
+                + "it, no two the same one, by SHORTEST, together: the least");
         RightTurns two = Texts.townOf(SQUARE + "box0;box1;");
         check.due("its own box is one with it", two.bound(0, 0), 18);
         check.due("from elsewhere: three", two.bound(2, 0), 30);

@@ -123,7 +123,8 @@ public final class TrafficBoundsTest {
     }
 
     private void asItIsNow() {
-        check.says(0, "TRAFFIC, from ROUND 0 on: each RIDER takes SHORTEST (of all those the first) as the town is now");
+        check.says(0, "TRAFFIC, from ROUND 0 on: each RIDER takes SHORTEST (of all those the first) as the town is "
+                + "now");
         RightTurns x = Texts.townOf("corner0 0;corner1 0;corner1 1;street0 1 5;street1 2 7;rider0 2 0;");
         check.due("left", x.home(0), NONE);
         x.allow(0, 1, true);
