@@ -3,6 +3,8 @@ import java.util.concurrent.Callable;
 
 /** Random towns and calls: the class and the oracle must answer alike. The seeds are fixed. */
 public final class OracleTest {
+    private static final int LARGE_TOWNS = 15;
+
     private final Random random;
     private final Check check;
     private RightTurns turns = new RightTurns();
@@ -23,6 +25,11 @@ public final class OracleTest {
         for (int seed = from; seed < from + seeds && check.isFine(); seed++) {
             new OracleTest(seed, check).run();
         }
+        int opened = 0;
+        for (int seed = from; opened < LARGE_TOWNS && seed < from + 100 * LARGE_TOWNS && check.isFine(); seed++) {
+            opened += new OracleTest(seed, check).opensLargeTown() ? 1 : 0;
+        }
+        check.due("large towns that left turns open", opened, LARGE_TOWNS);
         check.end();
     }
 
@@ -39,6 +46,28 @@ public final class OracleTest {
                 anyCall();
             }
         }
+    }
+
+    /** Of a large town with 9 candidates or more, that no single one opens: the oracle takes long, so these are few. */
+    private boolean opensLargeTown() {
+        tellTown(TownMaker.grid(random));
+        for (int k = 0; k < turns.told(4); k++) {
+            int pair = turns.left(k);
+            if (random.nextInt(10) < 2) {
+                same("allow " + pair, () -> turns.allow(pair / 100, pair % 100, true),
+                        () -> oracle.allow(pair / 100, pair % 100, true));
+            }
+        }
+        int now = turns.told(5);
+        if (turns.candidates(now) < 9 || turns.fewest(now, 0) < 2) {
+            return false;
+        }
+        for (int what = 0; what < 2; what++) {
+            int w = what;
+            same("fewest " + w, () -> turns.fewest(now, w), () -> oracle.fewest(now, w));
+            same("cheapest " + w, () -> turns.cheapest(now, w), () -> oracle.cheapest(now, w));
+        }
+        return true;
     }
 
     private void same(String call, Callable<?> got, Callable<?> want) {

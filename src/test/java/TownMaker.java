@@ -72,6 +72,27 @@ final class TownMaker {
         return text.toString();
     }
 
+    /** A grid of 10 to 16 corners with most of its streets: there are many left turns. */
+    static String grid(Random random) {
+        StringBuilder text = new StringBuilder();
+        int corners = 10 + random.nextInt(7);
+        int wide = 3 + random.nextInt(2);
+        for (int i = 0; i < corners; i++) {
+            text.append("corner").append(i % wide).append(' ').append(i / wide).append(';');
+        }
+        int streets = 0;
+        for (int i = 0; i < 2 * corners && streets < 24; i++) {
+            int a = i / 2;
+            int b = i % 2 == 0 ? a + 1 : a + wide;
+            boolean beside = i % 2 != 0 || b % wide != 0;
+            if (beside && b < corners && random.nextInt(12) > 0) {
+                text.append("street").append(a).append(' ').append(b).append(' ').append(1 + random.nextInt(30)).append(';');
+                streets++;
+            }
+        }
+        return text.toString();
+    }
+
     /** One or two places are made anew. */
     static String spoil(String text, Random random) {
         StringBuilder other = new StringBuilder(text);
